@@ -535,7 +535,7 @@ public final class ToolSaints {
         }
 
         boolean holds(int sort, int which) {
-            return which >= 0 && which < count(sort);
+            return sort >= 0 && sort < SORTS && which >= 0 && which < counts[sort];
         }
 
         boolean isFull(int sort) {
@@ -556,8 +556,8 @@ public final class ToolSaints {
         }
 
         int find(int sort, int word) {
-            for (int which = 0; which < count(sort); which++) {
-                if (nameOf(sort, which) == word) {
+            for (int which = 0; which < count(sort) && which < NAMES_MOST; which++) {
+                if (names[sort * NAMES_MOST + which] == word) {
                     return which;
                 }
             }
@@ -597,7 +597,8 @@ public final class ToolSaints {
         }
 
         boolean hasStep(int job, int step) {
-            return holds(SORT_JOB, job) && step >= 0 && step < stepCount[job] && step < STEPS_MOST;
+            boolean there = job >= 0 && job < counts[SORT_JOB];
+            return there && step >= 0 && step < stepCount[job] && step < STEPS_MOST;
         }
 
         int kindOfStep(int job, int step) {
@@ -661,21 +662,20 @@ public final class ToolSaints {
     private static final class Code {
         static final int NUMBER = 0;
         static final int FACT = 1;
-        static final int ALL = 2;
-        static final int NOT = 3;
-        static final int IF = 4;
-        static final int PLUS = 5;
-        static final int MINUS = 6;
-        static final int TIMES = 7;
-        static final int BY = 8;
-        static final int LEFT = 9;
-        static final int MIN = 10;
-        static final int MAX = 11;
-        static final int LESS = 12;
-        static final int MORE = 13;
-        static final int SAME = 14;
-        static final int AND = 15;
-        static final int OR = 16;
+        static final int NOT = 2;
+        static final int IF = 3;
+        static final int PLUS = 4;
+        static final int MINUS = 5;
+        static final int TIMES = 6;
+        static final int BY = 7;
+        static final int LEFT = 8;
+        static final int MIN = 9;
+        static final int MAX = 10;
+        static final int LESS = 11;
+        static final int MORE = 12;
+        static final int SAME = 13;
+        static final int AND = 14;
+        static final int OR = 15;
 
         static final int REST = 0;
         static final int WORN = 1;
@@ -727,67 +727,40 @@ public final class ToolSaints {
             return wearsTo > wearsFrom;
         }
 
-        boolean mayHolds(int[] facts) {
-            return run(mayFrom, mayTo, facts) != 0;
-        }
-
-        int wearsSum(int[] facts) {
-            return run(wearsFrom, wearsTo, facts);
-        }
-
-        private int run(int from, int to, int[] facts) {
+        /** What operations from .. to leave on the stack; a TEST that holds leaves 1, else 0. */
+        int run(int from, int to, int[] facts) {
             int top = 0;
-            for (int i = from; i < to && i >= 0 && i < operations.length; i++) {
-                top = perform(operations[i], top, facts);
+            for (int i = from; i < to && i >= 0 && i < operations.length && top < STACK_MOST; i++) {
+                int operation = operations[i] & (1 << OPERATION_BITS) - 1;
+                int operand = operations[i] >> OPERATION_BITS;
+                if (operation == NUMBER) {
+                    stack[top] = operand;
+                    top++;
+                } else if (operation == FACT && operand >= 0 && operand < facts.length) {
+                    stack[top] = facts[operand];
+                    top++;
+                } else if (operation == NOT && top >= 1) {
+                    stack[top - 1] = 1 - stack[top - 1];
+                } else if (operation == IF && top >= 3) {
+                    top -= 2;
+                    stack[top - 1] = stack[top - 1] != 0 ? stack[top] : stack[top + 1];
+                } else if (operation >= MIN && top >= 2) {
+                    top--;
+                    stack[top - 1] = compare(operation, stack[top - 1], stack[top]);
+                } else if (top >= 2) {
+                    top--;
+                    stack[top - 1] = calculate(operation, stack[top - 1], stack[top]);
+                }
             }
             return top > 0 ? stack[0] : 0;
         }
 
-        private int perform(int coded, int top, int[] facts) {
-            int operation = coded & (1 << OPERATION_BITS) - 1;
-            int operand = coded >> OPERATION_BITS;
+        private static int compare(int operation, int a, int b) {
             switch (operation) {
-                case NUMBER:
-                    return push(operand, top);
-                case FACT:
-                    return push(operand >= 0 && operand < facts.length ? facts[operand] : 0, top);
-                case ALL:
-                    return push(1, top);
-                case NOT:
-                    return top < 1 ? top : push(1 - stack[top - 1], top - 1);
-                case IF:
-                    return top < 3 ? top
-                            : push(stack[top - 3] != 0 ? stack[top - 2] : stack[top - 1], top - 3);
-                default:
-                    return top < 2 ? top
-                            : push(combine(operation, stack[top - 2], stack[top - 1]), top - 2);
-            }
-        }
-
-        private int push(int value, int top) {
-            if (top < 0 || top >= STACK_MOST) {
-                return top;
-            }
-            stack[top] = value;
-            return top + 1;
-        }
-
-        private static int combine(int operation, int a, int b) {
-            switch (operation) {
-                case PLUS:
-                    return bounded((long) a + b);
-                case MINUS:
-                    return bounded((long) a - b);
-                case TIMES:
-                    return bounded((long) a * b);
-                case BY:
-                    return b == 0 ? 0 : bounded(Math.floorDiv(a, b));
-                case LEFT:
-                    return b == 0 ? 0 : bounded(Math.floorMod(a, b));
                 case MIN:
-                    return Math.min(a, b);
+                    return a < b ? a : b;
                 case MAX:
-                    return Math.max(a, b);
+                    return a > b ? a : b;
                 case LESS:
                     return a < b ? 1 : 0;
                 case MORE:
@@ -801,8 +774,20 @@ public final class ToolSaints {
             }
         }
 
-        private static int bounded(long result) {
-            return (int) Math.max(-RESULT_MOST, Math.min(RESULT_MOST, result));
+        private static int calculate(int operation, long a, long b) {
+            long result = 0;
+            if (operation == PLUS) {
+                result = a + b;
+            } else if (operation == MINUS) {
+                result = a - b;
+            } else if (operation == TIMES) {
+                result = a * b;
+            } else if (b != 0) {
+                boolean cutUpward = a % b != 0 && a < 0 != b < 0;
+                long quotient = cutUpward ? a / b - 1 : a / b;
+                result = operation == BY ? quotient : a - b * quotient;
+            }
+            return (int) (result > RESULT_MOST ? RESULT_MOST : result < -RESULT_MOST ? -RESULT_MOST : result);
         }
     }
 
@@ -1054,29 +1039,31 @@ public final class ToolSaints {
             this.code = code;
         }
 
-        boolean readMay(Code target) {
+        boolean beginMay(Code target) {
             code = target;
             inMay = true;
             code.mayFrom = code.size;
-            if (!readTest(0)) {
-                return false;
-            }
+            return true;
+        }
+
+        boolean endMay() {
             code.mayTo = code.size;
             return true;
         }
 
-        boolean readWears(Code target) {
+        boolean beginWears(Code target) {
             code = target;
             inMay = false;
             code.wearsFrom = code.size;
-            if (!readSum(0)) {
-                return false;
-            }
+            return true;
+        }
+
+        boolean endWears() {
             code.wearsTo = code.size;
             return true;
         }
 
-        private boolean readTest(int open) {
+        boolean readTest(int open) {
             boolean fine = readBoth(open);
             for (int i = 0; i < TAPE_MOST && fine && tokens.isWord(Tokens.OR); i++) {
                 tokens.advance();
@@ -1103,7 +1090,7 @@ public final class ToolSaints {
             }
             if (tokens.isWord(Tokens.ALL)) {
                 tokens.advance();
-                return code.put(Code.ALL, 0);
+                return code.put(Code.NUMBER, 1);
             }
             return readSum(open) && readSecondSum(open);
         }
@@ -1127,7 +1114,7 @@ public final class ToolSaints {
             return tokens.isSign('=') ? Code.SAME : NONE;
         }
 
-        private boolean readSum(int open) {
+        boolean readSum(int open) {
             boolean fine = readProduct(open);
             for (int i = 0; i < TAPE_MOST && fine && (tokens.isSign('+') || tokens.isSign('-')); i++) {
                 int operation = tokens.isSign('+') ? Code.PLUS : Code.MINUS;
@@ -1185,19 +1172,21 @@ public final class ToolSaints {
 
         private boolean readTwo(int open, int operation) {
             tokens.advance();
-            return opensRound(open) && readSum(open + 1) && tokens.takeSign(',')
+            if (!tokens.isSign('(')) {
+                return tokens.failHere();
+            }
+            return opens(open) && readSum(open + 1) && tokens.takeSign(',')
                     && readSum(open + 1) && tokens.takeSign(')') && code.put(operation, 0);
         }
 
         private boolean readIf(int open) {
             tokens.advance();
-            return opensRound(open) && readTest(open + 1) && tokens.takeSign(',')
+            if (!tokens.isSign('(')) {
+                return tokens.failHere();
+            }
+            return opens(open) && readTest(open + 1) && tokens.takeSign(',')
                     && readSum(open + 1) && tokens.takeSign(',')
                     && readSum(open + 1) && tokens.takeSign(')') && code.put(Code.IF, 0);
-        }
-
-        private boolean opensRound(int open) {
-            return tokens.isSign('(') ? opens(open) : tokens.failHere();
         }
 
         private boolean opens(int open) {
@@ -1289,9 +1278,11 @@ public final class ToolSaints {
                 case Tokens.SERVES:
                     return readServes();
                 case Tokens.MAY:
-                    return opensRule(year.code.hasMay()) && rules.readMay(year.code);
+                    return opensRule(year.code.hasMay()) && rules.beginMay(year.code)
+                            && rules.readTest(0) && rules.endMay();
                 case Tokens.WEARS:
-                    return opensRule(year.code.hasWears()) && rules.readWears(year.code);
+                    return opensRule(year.code.hasWears()) && rules.beginWears(year.code)
+                            && rules.readSum(0) && rules.endWears();
                 case Tokens.BREAKS:
                 case Tokens.FINE:
                 case Tokens.FROST:
@@ -1321,7 +1312,10 @@ public final class ToolSaints {
                 return false;
             }
             int day = tokens.takeNumber(0, NUMBER_MOST);
-            int round = takeRoundAbove(day);
+            if (day == NONE || !tokens.takeWord(Tokens.OF)) {
+                return false;
+            }
+            int round = tokens.takeNumber(leastRound(day), ROUND_MOST);
             if (round == NONE || kind >= KINDS_MOST) {
                 return false;
             }
@@ -1330,12 +1324,9 @@ public final class ToolSaints {
             return true;
         }
 
-        /** The ROUND behind its DAY, which is NONE where that failed already. */
-        private int takeRoundAbove(int day) {
-            if (day == NONE || !tokens.takeWord(Tokens.OF)) {
-                return NONE;
-            }
-            return tokens.takeNumber(Math.max(ROUND_LEAST, day + 1), ROUND_MOST);
+        /** A DAY as high as its ROUND is a FAULT of the ROUND, never of the DAY. */
+        private static int leastRound(int day) {
+            return Math.max(ROUND_LEAST, day + 1);
         }
 
         private boolean readTool() {
@@ -1378,27 +1369,17 @@ public final class ToolSaints {
                 return false;
             }
             year.term[job] = term;
-            year.stepCount[job] = 0;
-            boolean fine = readStep(job, 0);
-            for (int step = 1; step < STEPS_MOST && fine && tokens.startsStep(); step++) {
-                fine = readStep(job, step);
+            for (int step = 0; step < STEPS_MOST && (step == 0 || tokens.startsStep()); step++) {
+                int kind = takeNameOf(SORT_KIND, NONE);
+                int hours = kind == NONE ? NONE : tokens.takeNumber(1, 9);
+                if (hours == NONE) {
+                    return false;
+                }
+                year.stepKind[job * STEPS_MOST + step] = kind;
+                year.stepHours[job * STEPS_MOST + step] = hours;
+                year.stepCount[job] = step + 1;
             }
-            if (fine && tokens.startsStep()) {
-                return tokens.fail(6, tokens.start);
-            }
-            return fine;
-        }
-
-        private boolean readStep(int job, int step) {
-            int kind = takeNameOf(SORT_KIND, NONE);
-            int hours = kind == NONE ? NONE : tokens.takeNumber(1, 9);
-            if (hours == NONE || job >= JOBS_MOST || step >= STEPS_MOST) {
-                return false;
-            }
-            year.stepKind[job * STEPS_MOST + step] = kind;
-            year.stepHours[job * STEPS_MOST + step] = hours;
-            year.stepCount[job] = step + 1;
-            return true;
+            return !tokens.startsStep() || tokens.fail(6, tokens.start);
         }
 
         private boolean readServes() {
@@ -1438,7 +1419,10 @@ public final class ToolSaints {
         private boolean readSmith() {
             tokens.advance();
             int day = tokens.takeNumber(0, NUMBER_MOST);
-            int round = takeRoundAbove(day);
+            if (day == NONE || !tokens.takeWord(Tokens.OF)) {
+                return false;
+            }
+            int round = tokens.takeNumber(leastRound(day), ROUND_MOST);
             if (round == NONE) {
                 return false;
             }
@@ -1520,7 +1504,7 @@ public final class ToolSaints {
         }
 
         boolean isFinished(int job, Year year) {
-            return year.holds(SORT_JOB, job) && stepsDone[job] >= year.stepCount[job];
+            return job >= 0 && job < JOBS_MOST && stepsDone[job] >= year.stepCount[job];
         }
 
         boolean isAllFinished(Year year) {
@@ -1698,12 +1682,17 @@ public final class ToolSaints {
 
         private int chooseTool(int kind) {
             int out = yard.broken | yard.held | usedTools;
+            Code code = year.code;
             int best = NONE;
             for (int tool = 0; tool < year.count(SORT_TOOL); tool++) {
                 boolean free = year.toolKind[tool] == kind && (out >> tool & 1) == 0;
                 boolean better = best == NONE || yard.worn[tool] < yard.worn[best];
-                if (free && better && mayWork(tool)) {
-                    best = tool;
+                int hand = free && better ? chooseHand(tool) : NONE;
+                if (hand != NONE) {
+                    tellFacts(tool, hand);
+                    boolean may = code.hasMay() ? code.run(code.mayFrom, code.mayTo, facts) != 0
+                            : facts[Code.REST] == 0;
+                    best = may ? tool : best;
                 }
             }
             return best;
@@ -1720,18 +1709,6 @@ public final class ToolSaints {
             return best;
         }
 
-        private boolean mayWork(int tool) {
-            int hand = chooseHand(tool);
-            if (hand == NONE) {
-                return false;
-            }
-            if (!year.code.hasMay()) {
-                return facts[Code.REST] == 0;
-            }
-            tellFacts(tool, hand);
-            return year.code.mayHolds(facts);
-        }
-
         private void tellFacts(int tool, int hand) {
             if (tool >= 0 && tool < TOOLS_MOST) {
                 facts[Code.WORN] = yard.worn[tool];
@@ -1744,7 +1721,8 @@ public final class ToolSaints {
                 return;
             }
             tellFacts(tool, hand);
-            int wear = year.code.hasWears() ? year.code.wearsSum(facts) : facts[Code.HOURS];
+            Code code = year.code;
+            int wear = code.hasWears() ? code.run(code.wearsFrom, code.wearsTo, facts) : facts[Code.HOURS];
             yard.worn[tool] = Math.min(WORN_MOST, yard.worn[tool] + Math.max(0, Math.min(99, wear)));
             yard.known[hand * TOOLS_MOST + tool] = Math.min(KNOWN_MOST, yard.knownBy(hand, tool) + 1);
             if (facts[Code.REST] == 1) {
@@ -1870,7 +1848,10 @@ public final class ToolSaints {
             boolean more = true;
             for (int i = 0; i < ORDERS_MOST && more && orderLateness > least; i++) {
                 if (isWorthTrying(jobs)) {
-                    tryOrder(n);
+                    restart();
+                    System.arraycopy(tryRow, 0, shop.row, 0, JOBS_MOST);
+                    pass(n, orderLateness);
+                    keepOrderIfBest();
                 }
                 more = turnToNextRow(jobs);
             }
@@ -1887,10 +1868,7 @@ public final class ToolSaints {
             return true;
         }
 
-        private void tryOrder(int n) {
-            restart();
-            System.arraycopy(tryRow, 0, shop.row, 0, JOBS_MOST);
-            pass(n, orderLateness);
+        private void keepOrderIfBest() {
             if (shop.lateness < orderLateness) {
                 orderLateness = shop.lateness;
                 System.arraycopy(tryRow, 0, bestRow, 0, JOBS_MOST);
@@ -1932,29 +1910,25 @@ public final class ToolSaints {
             }
             moveDays = n;
             moveKind = NONE;
-            int without = latenessBehind(n);
+            restart();
+            pass(n, Integer.MAX_VALUE);
+            int without = shop.lateness;
             int least = leastLateness(n);
             int best = without;
             for (int kind = 0; kind < year.count(SORT_KIND); kind++) {
                 for (int day = 0; day < year.round[kind] && best > least; day++) {
-                    int lateness = day == year.restDay[kind] ? without : latenessMoved(kind, day, n, best);
-                    if (lateness < best) {
-                        best = lateness;
+                    // On its own REST DAY it comes out as without, which is never less.
+                    restart();
+                    shop.rest[kind] = day;
+                    pass(n, best);
+                    if (shop.lateness < best) {
+                        best = shop.lateness;
                         moveKind = kind;
                         moveDay = day;
                     }
                 }
             }
             moveGain = without - best;
-        }
-
-        private int latenessMoved(int kind, int day, int n, int bound) {
-            restart();
-            if (kind >= 0 && kind < KINDS_MOST) {
-                shop.rest[kind] = day;
-            }
-            pass(n, bound);
-            return shop.lateness;
         }
 
         private boolean isDoneBehind(int job, int n, int heldToo) {
