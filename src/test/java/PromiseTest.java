@@ -298,6 +298,16 @@ public final class PromiseTest {
         fault("may not 1=1 and not 1=1 and not 1=1 and not 1=1 and not 1=1 and not 1=1 and not 1=1 and not 1=1;", 0, NONE);
         fault("wears (1)+(1)+(1)+(1)+(1)+(1)+(1)+(1)+(1);", 0, NONE);
         fault("wears (((((((1+[", 1, 15);
+        String seven = "wears min(1,max(1,if(1<2,if(1<min(2,3),4,max(5,min(%s,7))),8)));";
+        fault(String.format(seven, "(6)"), 0, NONE);
+        fault(String.format(seven, "((6))"), 5, 52);
+        fault("wears if([[[[[[all]]]]]],1,2);", 0, NONE);
+        fault("wears if([[[[[[[all]]]]]]],1,2);", 5, 15);
+        fault("wears if(all,((((((1)))))),((((((2)))))));", 0, NONE);
+        fault("wears if(all,(((((((1))))))),2);", 5, 19);
+        fault("wears if(all,1,(((((((2))))))));", 5, 21);
+        fault("wears min(1,((((((2)))))));", 0, NONE);
+        fault("wears min(1,(((((((2))))))));", 5, 18);
     }
 
     private static void tooMany() {
