@@ -981,9 +981,9 @@ public final class ToolSaints {
             return c >= '0' && c <= '9';
         }
 
+        /** Any letter will do, too long a word or without its blank too: a FAULT 6 behind the 4th STEP. */
         boolean startsStep() {
-            boolean apart = type == WORD || type == WRONG && place > start;
-            return apart && isLetter(byteAt(start));
+            return isLetter(byteAt(start));
         }
 
         boolean isWord(int word) {

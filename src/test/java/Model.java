@@ -463,7 +463,7 @@ final class Model {
                 int kind = old(0, NONE);
                 steps.add(new int[] {kind, number(1, 9)});
                 int c = firstByte();
-                if (steps.size() == 4 && letter(c) && !glued()) {
+                if (steps.size() == 4 && letter(c)) {
                     throw new Fault(6, at);
                 }
             } while (letter(firstByte()));

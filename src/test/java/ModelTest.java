@@ -215,6 +215,8 @@ public final class ModelTest {
             "abcdefg", "or", "%", "\n", "\t", "frost", "used", "0", "99", "100", "1000", "ka", "ta", "A", "5a", "a5",
             ",", "if(", "min (", "(((((((((", "not not not not not not not not ", "=", "fine 1;", "\u00e9"};
 
+        private static final List<String> STEP_NAMES = List.of("ka", "kb", "x", "by", "abcdefg", "A", "5");
+
         private final Random r;
         private final List<String> kinds = new ArrayList<>();
         private final List<String> tools = new ArrayList<>();
@@ -332,17 +334,28 @@ public final class ModelTest {
             StringBuilder text = new StringBuilder(sound);
             for (int i = near(1, 2); i > 0; i--) {
                 int at = r.nextInt(text.length() + 1);
-                switch (r.nextInt(6)) {
+                switch (r.nextInt(7)) {
                     case 0 -> text.insert(at, SCRAPS[r.nextInt(SCRAPS.length)]);
                     case 1 -> text.replace(at, Math.min(text.length(), at + near(1, 3)),
                             SCRAPS[r.nextInt(SCRAPS.length)]);
                     case 2 -> text.delete(at, Math.min(text.length(), at + near(1, 6)));
                     case 3 -> text.setLength(at);
                     case 4 -> text.insert(at, text.substring(at, Math.min(text.length(), at + near(1, 90))));
+                    case 5 -> spoilSteps(text, at);
                     default -> text.insert(text.indexOf(";") + 1, "fine 1;".repeat(near(60, 90)));
                 }
             }
             return text.toString();
+        }
+
+        /** A step or a word more behind a JOB's last one, half of the time without its blank. */
+        private void spoilSteps(StringBuilder text, int at) {
+            int job = Math.max(text.indexOf("job ", at), text.indexOf("job "));
+            int last = job < 0 ? -1 : text.indexOf(";", job);
+            if (last >= 0) {
+                String more = r.nextBoolean() ? any(r, STEP_NAMES) + " 1" : any(r, STEP_NAMES);
+                text.insert(last, (r.nextBoolean() ? " " : "") + more);
+            }
         }
     }
 }

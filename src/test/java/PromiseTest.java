@@ -346,7 +346,21 @@ public final class PromiseTest {
         fault(steps + " abcdefgh", 6, 52);
         fault(steps + " fine", 6, 52);
         fault(steps + " 1", 1, 52);
-        fault(steps + "k", 1, 51);
+        fault(steps + "\nx", 6, 52);
+        fault(steps + "k", 6, 51);
+        fault(steps + "x\0", 6, 51);
+        fault(steps + "k 1;", 6, 51);
+        fault(steps + "by", 6, 51);
+        fault(steps + "abcdefgh", 6, 51);
+        fault(steps + "X", 1, 51);
+        fault(steps + "0k", 4, 50);
+        fault(steps + "2345k", 1, 54);
+        String three = "kind k rests 0 of 5;job j by 1 does k 1 k 1 k 1";
+        fault(three + "k 1;", 1, 47);
+        fault(three + "x", 1, 47);
+        fault(three + "abcdefgh", 1, 47);
+        fault(three + " x", 3, 48);
+        fault(three + " abcdefgh", 1, 54);
     }
 
     private static void hasCounts() {
