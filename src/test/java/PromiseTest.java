@@ -1,15 +1,11 @@
 /** For each promise of the document its ordinary answers, its edges and its refusals, worked out by hand. */
-public final class PromiseTest {
-    private static final int NONE = -1;
+public final class PromiseTest extends Checks {
     /** Two KINDS, three TOOLS, two HANDS, two JOBS; saws rest on 1, 4, 7, axes on 0, 5, 10. */
     private static final String YARD = "kind saw rests 1 of 3;kind axe rests 0 of 5;"
             + "tool sa is saw worn 10;tool sb is saw worn 4;tool ax is axe worn 0;hand pip;hand quin;"
             + "knows pip sa 3;knows quin sb 2;knows quin ax 5;job bed by 1 does saw 3 axe 2;job door by 0 does saw 5 saw 6;";
     /** One of each; the JOB has four STEPS. */
     private static final String LONE = "kind k rests 0 of 30;tool t is k worn 0;hand h;job j by 0 does k 1 k 1 k 1 k 1;";
-
-    private static int wrong;
-    private static String promise = "";
 
     private PromiseTest() {
     }
@@ -44,38 +40,7 @@ public final class PromiseTest {
         images();
         imageRefusals();
         statuses();
-        System.out.println(wrong == 0 ? "all promises hold" : wrong + " answers are wrong");
-        if (wrong != 0) {
-            System.exit(1);
-        }
-    }
-
-    private static void is(String what, int got, int want) {
-        if (got != want) {
-            wrong++;
-            System.out.println(promise + ": " + what + " answered " + got + ", due is " + want);
-        }
-    }
-
-    private static void is(String what, boolean got, boolean want) {
-        is(what, got ? 1 : 0, want ? 1 : 0);
-    }
-
-    private static ToolSaints of(String text) {
-        ToolSaints x = new ToolSaints();
-        if (Tape.year(x, text) == NONE) {
-            is("a sound year, fault " + x.fault(0) + " at " + x.fault(1) + " of " + text, NONE, 0);
-        }
-        return x;
-    }
-
-    private static void fault(String text, int code, int place) {
-        ToolSaints x = new ToolSaints();
-        int got = Tape.year(x, text);
-        is("year() of " + text, got == NONE ? 1 : 0, code == 0 ? 0 : 1);
-        is("fault(0) of " + text, x.fault(0), code);
-        is("fault(1) of " + text, x.fault(1), place);
-        is("status(1)", x.status(1), code == 0 ? 0 : 1);
+        finish("all promises hold");
     }
 
     private static void newObject() {
