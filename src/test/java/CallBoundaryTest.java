@@ -2,12 +2,10 @@
 public final class CallBoundaryTest extends Checks {
     private static final int MIN = Integer.MIN_VALUE;
     private static final int MAX = Integer.MAX_VALUE;
-    /** Two KINDS, three TOOLS, two HANDS, two JOBS; saws rest on 1, 4, 7, axes on 0, 5, 10. */
-    private static final String YARD = "kind saw rests 1 of 3;kind axe rests 0 of 5;"
-            + "tool sa is saw worn 10;tool sb is saw worn 4;tool ax is axe worn 0;hand pip;hand quin;"
-            + "knows pip sa 3;knows quin sb 2;knows quin ax 5;job bed by 1 does saw 3 axe 2;job door by 0 does saw 5 saw 6;";
     /** A TOOL that may always work, a HAND, and a JOB that comes behind it. */
     private static final String ONE = "kind k rests 0 of 30;tool t is k worn 0;hand h;may all;fine 0;";
+    /** A seed of which the first DRAW of 100 is 0: below the least frost there can be. */
+    private static final int NO_FROST_BELOW_ONE = seedThatDraws(0);
     /** Nothing can ever be done: no TOOLS. */
     private static final String IDLE = "kind k rests 0 of 2;job j by 0 does k 1;";
 
@@ -20,6 +18,7 @@ public final class CallBoundaryTest extends Checks {
         ends();
         refusedYears();
         acceptedYears();
+        yearsInARow();
         faults();
         hasEdges();
         finesPaid();
@@ -40,6 +39,8 @@ public final class CallBoundaryTest extends Checks {
         lateEdges();
         orderEdges();
         orderLikes();
+        askedAnew();
+        orderOfBegunJobs();
         movedEdges();
         movedLikes();
         makeshiftEdges();
@@ -67,10 +68,14 @@ public final class CallBoundaryTest extends Checks {
         imageLengths();
         statuses();
         aheadChangesNothing();
+        aheadIsWithoutFrost();
         finish("the boundaries of calls hold");
     }
 
-    /** All that can be asked of an object without a change, but what was refused and the fault. */
+    /**
+     * All that can be asked of an object without a change, but what was refused and the fault. That is
+     * more than the 512 calls the document promises, but the program counts no calls.
+     */
     private static String all(ToolSaints x) {
         StringBuilder b = new StringBuilder();
         for (int a = -1; a < 14; a++) {
@@ -108,14 +113,6 @@ public final class CallBoundaryTest extends Checks {
         return Tape.summed(copy);
     }
 
-    private static String jobs(int count, String form) {
-        StringBuilder b = new StringBuilder();
-        for (int i = 0; i < count; i++) {
-            b.append(form.replace("#", "n" + (char) ('a' + i)));
-        }
-        return b.toString();
-    }
-
     private static void newObject() {
         promise = "1 no TOOLS, no JOBS; the seed is 1";
         ToolSaints x = new ToolSaints();
@@ -145,6 +142,8 @@ public final class CallBoundaryTest extends Checks {
         is("shavings of a TOOL that is not there", Tape.shavings(x, 0, 0), NONE);
         is("days(100)", x.days(100), 0);
         is("chance(100)", x.chance(100), 0);
+        x.seed(NO_FROST_BELOW_ONE);
+        is("no frost", x.chance(1), 0);
         is("another object has a seed of its own", new ToolSaints().has(12), 1);
     }
 
@@ -252,6 +251,58 @@ public final class CallBoundaryTest extends Checks {
         is("an empty YEAR", x.year(), 0);
         is("all went", all(x), all(new ToolSaints()));
         is("nothing was refused", x.status(1), 0);
+        promise = "4 no TOOL is BROKEN or HELD at first, no fine is paid";
+        String breaks = "kind k rests 0 of 2;tool t is k worn 5;hand h;job j by 0 does k 1 k 1;may all;breaks 1;smith 9 of 30;";
+        ToolSaints y = of(breaks);
+        y.days(3);
+        y.hold(0, 1);
+        is("BROKEN", y.has(6), 1);
+        is("fines paid", y.has(5) > 0, true);
+        Tape.year(y, breaks);
+        is("as at first", all(y), all(of(breaks)));
+    }
+
+    private static void yearsInARow() {
+        promise = "4 nothing of an earlier YEAR counts, however many there were";
+        String plain = "kind k rests 29 of 30;kind q rests 29 of 30;tool t is k worn 90;hand h;job j by 0 does k 9 k 2;";
+        String[] others = {"may not all;", "wears 50;", "breaks 1;", "smith 3 of 4;", "fine 77;", "frost 100;", "knows h t 7;",
+            "serves k for q at 4;", "wears 9;may day=1;breaks 50;smith 1 of 2;"};
+        for (String other : others) {
+            ToolSaints x = of(plain + other);
+            for (int turn = 0; turn < 3; turn++) {
+                is("the plain one", Tape.year(x, plain), 5);
+                is("knows", x.knows(0, 0), 0);
+                is("serves", x.makeshift(0, 1, NONE), NONE);
+                is("may: none", x.later(1, 0), 1);
+                is("wears: HOURS; breaks 100", x.later(2, 0), 2);
+                is("fine 5", x.later(2, NONE), 0);
+                x.hold(0, 1);
+                is("fine 5", x.later(2, NONE), 5);
+                x.undo();
+                x.seed(NO_FROST_BELOW_ONE);
+                is("no frost", x.chance(1), 0);
+                is("wears: HOURS", x.tool(0, 1), 99);
+                is("breaks 100", x.tool(0, 2), 0);
+                x.days(1);
+                is("breaks 100", x.tool(0, 2), 1);
+                x.days(7);
+                is("smith 0 of 9: not ahead of DAY 9", x.tool(0, 2), 1);
+                x.days(1);
+                is("smith 0 of 9", x.tool(0, 2), 0);
+            }
+        }
+        promise = "4 the newest rules count, whichever was told first";
+        ToolSaints x = new ToolSaints();
+        for (int turn = 1; turn < 6; turn++) {
+            String may = "may day=" + turn + ";";
+            String wears = "wears " + turn + "+1;";
+            Tape.year(x, plain + (turn % 2 == 0 ? may + wears : wears + may));
+            is("may of turn " + turn, x.done(0), NONE);
+            is("may of turn " + turn, x.later(turn, 0), 0);
+            is("may of turn " + turn, x.later(turn + 1, 0), 1);
+            x.days(turn + 1);
+            is("wears of turn " + turn, x.tool(0, 1), 90 + turn + 1);
+        }
     }
 
     private static void faults() {
@@ -282,8 +333,8 @@ public final class CallBoundaryTest extends Checks {
             is("has(" + what + ")", x.has(what), NONE);
         }
         promise = "6 full";
-        ToolSaints y = of("kind k rests 29 of 30;" + jobs(8, "tool # is k worn 0;") + jobs(6, "hand h#;")
-                + jobs(6, "job j# by 0 does k 1;") + "breaks 1;");
+        ToolSaints y = of("kind k rests 29 of 30;" + many(8, "tool # is k worn 0;") + many(6, "hand h#;")
+                + many(6, "job j# by 0 does k 1;") + "breaks 1;");
         for (int tool = 0; tool < 8; tool++) {
             y.hold(tool, 1);
         }
@@ -373,7 +424,7 @@ public final class CallBoundaryTest extends Checks {
         }
         promise = "8 its TOOLS (bits)";
         is("none", x.kind(0, 2), 0);
-        is("all eight", of("kind k rests 0 of 2;" + jobs(8, "tool # is k worn 0;")).kind(0, 2), 255);
+        is("all eight", of("kind k rests 0 of 2;" + many(8, "tool # is k worn 0;")).kind(0, 2), 255);
     }
 
     private static void tools() {
@@ -469,7 +520,7 @@ public final class CallBoundaryTest extends Checks {
             is("DAY " + day, x.days(1), due[day]);
         }
         promise = "II, those that have not worked on this DAY";
-        String two = "kind k rests 29 of 30;" + jobs(2, "tool # is k worn 0;") + jobs(3, "hand h#;") + jobs(3, "job j# by 9 does k 1;");
+        String two = "kind k rests 29 of 30;" + many(2, "tool # is k worn 0;") + many(3, "hand h#;") + many(3, "job j# by 9 does k 1;");
         ToolSaints y = of(two);
         is("two TOOLS, three JOBS", y.days(1), 2);
         is("the first TOOL", y.kept(0, 2), 0);
@@ -526,6 +577,10 @@ public final class CallBoundaryTest extends Checks {
         is("HOURS without", wornBy(90, ""), 99);
         is("HOURS without, 100 at most", wornBy(95, ""), 100);
         is("as it is worn then", wornBy(10, "wears worn;"), 20);
+        ToolSaints first = of("kind k rests 29 of 30;tool a is k worn 8;tool b is k worn 3;hand h;hand g;knows h a 4;knows g b 5;"
+                + "job j by 9 does k 1;may worn=8;wears worn*knows;");
+        first.days(1);
+        is("of the TOOL and the HAND that work, though another TOOL was asked", first.tool(0, 1), 8 + 32);
         is("100 stays below breaks of a TOOL at 100", changed(of("kind k rests 1 of 30;tool t is k worn 0;hand h;"
                 + "job j by 9 does k 9;"), 4, 100).later(1, 0), 1);
         promise = "II, the HAND knows it one better (9 at most)";
@@ -654,7 +709,7 @@ public final class CallBoundaryTest extends Checks {
         is("on DAY 999: done is done", changed(onDay(String.format(text, 999), 999), 8, 1).done(0), 0);
         is("never", of(IDLE).done(0), NONE);
         is("one STEP a DAY", of(ONE + "job j by 0 does k 1 k 1 k 1 k 1;").done(0), 4);
-        is("a JOB of like ones waits", of(ONE + jobs(6, "job # by 0 does k 1 k 1 k 1 k 1;")).done(5), 24);
+        is("a JOB of like ones waits", of(ONE + many(6, "job # by 0 does k 1 k 1 k 1 k 1;")).done(5), 24);
     }
 
     private static void lateEdges() {
@@ -671,7 +726,7 @@ public final class CallBoundaryTest extends Checks {
         is("beyond it", onDay(IDLE, 900).late(100), NONE);
         is("up to it", onDay(IDLE, 998).late(1), 998);
         is("DAY 999", onDay(IDLE, 999).late(1), NONE);
-        is("the most there can be", onDay("kind k rests 0 of 2;" + jobs(6, "job # by 0 does k 1;"), 899).late(100), 6 * (99900 - 5050));
+        is("the most there can be", onDay("kind k rests 0 of 2;" + many(6, "job # by 0 does k 1;"), 899).late(100), 6 * (99900 - 5050));
         promise = "III, of a JOB that is done on a DAY: not on that one";
         String text = ONE.replace("may all", "may day=5") + "job j by 0 does k 1;";
         is("ahead of it", of(text).late(5), 10);
@@ -704,7 +759,7 @@ public final class CallBoundaryTest extends Checks {
         is("no JOBS", of(ONE).order(1, NONE), 0);
         is("no JOBS", of(ONE).order(1, 0), NONE);
         is("one JOB", of(ONE + "job a by 0 does k 1;").order(1, 0), 0);
-        ToolSaints six = of(ONE + jobs(5, "job # by 9 does k 1 k 1;") + "job last by 0 does k 1;");
+        ToolSaints six = of(ONE + many(5, "job # by 9 does k 1 k 1;") + "job last by 0 does k 1;");
         int[] row = {5, 0, 1, 2, 3, 4};
         for (int k = 0; k < 6; k++) {
             is("six JOBS, place " + k, six.order(5, k), row[k]);
@@ -719,11 +774,11 @@ public final class CallBoundaryTest extends Checks {
 
     private static void orderLikes() {
         promise = "III, ORDER: of like ones the first by JOBS";
-        ToolSaints x = of(ONE + jobs(4, "job # by 9 does k 1;"));
+        ToolSaints x = of(ONE + many(4, "job # by 9 does k 1;"));
         for (int k = 0; k < 4; k++) {
             is("none is LATE", x.order(4, k), k);
         }
-        ToolSaints y = of(ONE + jobs(3, "job # by 0 does k 1;"));
+        ToolSaints y = of(ONE + many(3, "job # by 0 does k 1;"));
         for (int k = 0; k < 3; k++) {
             is("all as LATE in each row", y.order(9, k), k);
         }
@@ -741,9 +796,78 @@ public final class CallBoundaryTest extends Checks {
         is("asked anew", z.order(3, NONE), 1);
         z.undo();
         is("asked anew", z.order(3, NONE), 0);
-        changed(z, 0, 0, 1, 3);
-        is("asked anew", z.order(3, NONE), 0);
         is("with another n", z.order(1, NONE), 0);
+        changed(z, 0, 0, 1, 3);
+        is("asked anew behind on(): b or c, on DAY 3", z.order(1, NONE), 0);
+        changed(z, 15, 0, 16, 0);
+        is("asked anew behind on()", z.order(1, NONE), 0);
+    }
+
+    private static void askedAnew() {
+        promise = "15, 16 as it is now, not as it was when asked last";
+        String text = "kind k rests 0 of 3;tool t is k worn 0;hand h;fine 0;job a by %d does k 1;job b by 0 does k 1;";
+        ToolSaints x = onDay(String.format(text, 999), 1);
+        for (int n : new int[] {1, 2, 30}) {
+            is("order", x.order(n, NONE), 0);
+            is("order", x.order(n, 0), 1);
+            is("moved: none", x.moved(n, 0), NONE);
+            x.due(0, 0);
+            is("order behind due()", x.order(n, NONE), 1);
+            x.undo();
+            is("order behind undo()", x.order(n, NONE), 0);
+            x.days(1);
+            x.due(0, 0);
+            is("order behind days(): a is done, b on DAY 2", x.order(n, NONE), 0);
+            is("moved behind days(): none, DAY 3 rests", x.moved(1, 0), NONE);
+            x.undo();
+            x.undo();
+        }
+        for (int n : new int[] {1, 2, 30}) {
+            is("order", x.order(n, NONE), 0);
+            changed(x, 0, 0, 1, 3);
+            is("order behind on()", x.order(n, NONE), 3);
+            is("moved behind on(): a on DAY 3, b on DAY 4, not on 5", x.moved(n, 2), n == 1 ? NONE : 4);
+            changed(x, 0, 0, 1, 1);
+            is("order behind on()", x.order(n, NONE), 0);
+            is("moved behind on()", x.moved(n, 2), NONE);
+            Tape.year(x, IDLE);
+            is("order behind year()", x.order(n, NONE), n * (n - 1) / 2);
+            Tape.year(x, String.format(text, 999));
+            is("order behind year(): b on DAY 1", x.order(n, NONE), 0);
+            changed(x, 0, 0, 1, 1);
+        }
+        promise = "12 .. 19 by numbers and REST DAYS as they are, whatever was asked ahead";
+        ToolSaints y = onDay("kind k rests 0 of 3;kind q rests 1 of 3;tool t is k worn 0;tool u is q worn 0;hand h;"
+                + "job a by 0 does k 1;job b by 0 does q 1;job c by 0 does k 1;", 3);
+        int late = y.late(30);
+        int done = y.done(0) * 100 + y.done(1) * 10 + y.done(2);
+        is("DAY 3: q alone; 4: k alone; 5: the other k", late, 3 + 3 + 4);
+        is("done", done, 213);
+        y.order(30, 0);
+        is("late behind order()", y.late(30), late);
+        is("done behind order()", y.done(0) * 100 + y.done(1) * 10 + y.done(2), done);
+        y.moved(30, 0);
+        is("late behind moved()", y.late(30), late);
+        is("later behind moved()", y.later(2, 0) * 100 + y.later(2, 1) * 10 + y.later(2, 2), 110);
+        y.order(30, 0);
+        is("hangs behind order()", y.hangs(0, 2), 1);
+        y.order(30, 0);
+        is("guard behind order()", y.guard(0, 2), 1);
+        y.order(30, 0);
+        is("moved behind order(): with one HAND never less than 10", y.moved(30, 2), NONE);
+        y.order(30, 0);
+        Tape.shavings(y, 0, 1);
+        is("shavings behind order()", y.when(0), 1);
+    }
+
+    private static void orderOfBegunJobs() {
+        promise = "15 of JOBS that are begun";
+        ToolSaints x = onDay(ONE + "job a by 0 does k 1 k 1 k 1 k 1;job b by 0 does k 1 k 1 k 1 k 1;", 9);
+        changed(x, 8, 1, 11, 3);
+        is("by numbers: a on DAYS 9, 10, b on 9 .. 11", x.late(9), 9 + 10 + 9 + 10 + 11);
+        is("b first: a alone on 9 .. 11", x.order(9, NONE), 9 + 10 + 11);
+        is("b", x.order(9, 0), 1);
+        is("a", x.order(9, 1), 0);
     }
 
     private static void movedEdges() {
@@ -798,11 +922,15 @@ public final class CallBoundaryTest extends Checks {
         is("of the largest ROUND the first DAY", z.moved(9, 1), 0);
         ToolSaints w = onDay("kind k rests 0 of 30;tool t is k worn 0;hand h;job i by 0 does k 1;may rest=1 and day=59;", 30);
         is("the last DAY of its ROUND alone", w.moved(60, 1), 29);
+        ToolSaints v = onDay("kind k rests 0 of 2;tool t is k worn 0;hand h;job i by 0 does k 1 k 1;", 2);
+        is("it never goes without one: DAYS 3, 5", v.late(9), 2 + 3 + 4);
+        is("DAYS 2, 4", v.moved(9, 2), 4);
+        is("the only other one", v.moved(9, 1), 1);
     }
 
     private static void makeshiftEdges() {
         promise = "17 k NONE: what all serve at together, 0 for itself; NONE when there is none, none such, or for others";
-        String six = jobs(6, "kind # rests 0 of 2;");
+        String six = many(6, "kind # rests 0 of 2;");
         ToolSaints x = of(six + "serves nb for na at 99;serves nc for nb at 99;serves nd for nc at 99;serves ne for nd at 99;"
                 + "serves nf for ne at 99;");
         is("the dearest", x.makeshift(5, 0, NONE), 495);
@@ -832,7 +960,7 @@ public final class CallBoundaryTest extends Checks {
 
     private static void makeshiftLikes() {
         promise = "III, MAKESHIFT: of like ones the fewest, then KIND by KIND the first";
-        String six = jobs(6, "kind # rests 0 of 2;");
+        String six = many(6, "kind # rests 0 of 2;");
         ToolSaints x = of(six + "serves nb for na at 1;serves nc for nb at 1;serves nd for nc at 1;serves nd for na at 3;");
         is("together", x.makeshift(3, 0, NONE), 3);
         is("one, not three", x.makeshift(3, 0, 0), 3);
@@ -847,6 +975,10 @@ public final class CallBoundaryTest extends Checks {
         ToolSaints z = of(six + "serves nb for na at 5;serves ne for nb at 5;serves nf for ne at 5;serves nc for nb at 5;"
                 + "serves nf for nc at 5;");
         is("the second KIND decides", z.makeshift(5, 0, 1), 2);
+        ToolSaints first = of(six + "serves na for nf at 1;serves nb for na at 1;serves nc for nf at 1;serves nb for nc at 1;");
+        is("the first KIND of all", first.makeshift(1, 5, 0), 0);
+        is("the first KIND of all at last", first.makeshift(0, 5, 0), 0);
+        is("at", first.makeshift(0, 5, NONE), 1);
     }
 
     private static void hangsEdges() {
@@ -874,11 +1006,17 @@ public final class CallBoundaryTest extends Checks {
         x.undo();
         x.hold(0, 1);
         is("HELD: it is never done", x.hangs(0, 60), 0);
-        String eight = "kind k rests 29 of 30;" + jobs(8, "tool # is k worn 0;") + jobs(6, "hand h#;");
-        is("all eight: one each of a KIND", of(jobs(4, "kind k# rests 29 of 30;") + "tool a is kna worn 0;tool b is knb worn 0;"
+        ToolSaints two = of(ONE + "tool u is k worn 0;job j by 0 does k 1;");
+        two.hold(1, 1);
+        is("the second is HELD: it hangs on the first", two.hangs(0, 1), 1);
+        two.hold(1, 0);
+        two.hold(0, 1);
+        is("the first is HELD: it hangs on the second", two.hangs(0, 1), 2);
+        String eight = "kind k rests 29 of 30;" + many(8, "tool # is k worn 0;") + many(6, "hand h#;");
+        is("all eight: one each of a KIND", of(many(4, "kind k# rests 29 of 30;") + "tool a is kna worn 0;tool b is knb worn 0;"
                 + "tool c is knc worn 0;tool d is knd worn 0;hand h;job j by 0 does kna 1 knb 1 knc 1 knd 1;").hangs(0, 4), 15);
-        is("six JOBS, eight TOOLS", of(eight + jobs(6, "job j# by 0 does k 1;")).hangs(5, 1), 0);
-        ToolSaints y = of(eight + jobs(6, "job j# by 0 does k 1;"));
+        is("six JOBS, eight TOOLS", of(eight + many(6, "job j# by 0 does k 1;")).hangs(5, 1), 0);
+        ToolSaints y = of(eight + many(6, "job j# by 0 does k 1;"));
         y.hold(0, 1);
         y.hold(1, 1);
         is("six JOBS, six TOOLS left", y.hangs(5, 1), 252);
@@ -909,7 +1047,7 @@ public final class CallBoundaryTest extends Checks {
         String base = "kind k rests 29 of 30;hand h;job j by 0 does k 1;";
         int[] due = {0, 1, 3, 7, NONE, NONE, NONE, NONE, NONE};
         for (int count = 0; count < due.length; count++) {
-            ToolSaints y = of(base + jobs(count, "tool # is k worn 0;"));
+            ToolSaints y = of(base + many(count, "tool # is k worn 0;"));
             is(count + " TOOLS", y.guard(0, 1), due[count]);
             if (count > 0) {
                 y.hold(0, 1);
@@ -931,7 +1069,7 @@ public final class CallBoundaryTest extends Checks {
     private static void loanEdges() {
         promise = "20 NONE when it has none at first, when there is none such, or for others";
         String two = "kind k rests 0 of 2;tool t is k worn 0;tool u is k worn 0;";
-        ToolSaints x = of(two + jobs(3, "hand #;") + "knows na u 9;knows nc t 9;");
+        ToolSaints x = of(two + many(3, "hand #;") + "knows na u 9;knows nc t 9;");
         is("nb knows all alike: its own", x.loan(1, 0), 1);
         is("na gets its own, then", x.loan(0, 0), 0);
         is("in the second round", x.loan(0, 1), 2);
@@ -954,7 +1092,7 @@ public final class CallBoundaryTest extends Checks {
 
     private static void loanRounds() {
         promise = "III, LOANS: its own, if that is among these; of like others the first TOOL";
-        String six = "kind k rests 0 of 2;" + jobs(6, "tool t# is k worn 0;") + jobs(6, "hand h#;");
+        String six = "kind k rests 0 of 2;" + many(6, "tool t# is k worn 0;") + many(6, "hand h#;");
         ToolSaints alike = of(six);
         for (int hand = 0; hand < 6; hand++) {
             is("all alike: its own", alike.loan(hand, 0), hand);
@@ -1107,6 +1245,7 @@ public final class CallBoundaryTest extends Checks {
         is("beyond by one", z.chance(100), NONE);
         is("no DRAW", z.has(12), 1);
         is("up to it", z.chance(99), 99);
+        is("KEPT as ever", x.kept(1, 0), 1);
         promise = "II, a frost is of its DAY alone";
         ToolSaints w = of(ONE.replace("may all", "may frost=1") + "frost 100;job j by 0 does k 1 k 1;");
         is("a DAY with it", w.chance(1), 1);
@@ -1117,6 +1256,14 @@ public final class CallBoundaryTest extends Checks {
 
     private static long drawn(long seed) {
         return (1103515245L * seed + 12345) % (1L << 31);
+    }
+
+    private static int seedThatDraws(int drawn) {
+        int seed = 0;
+        while (drawn(seed) / 64 % 100 != drawn) {
+            seed++;
+        }
+        return seed;
     }
 
     private static void draws() {
@@ -1140,6 +1287,11 @@ public final class CallBoundaryTest extends Checks {
         }
         is("never at 0", z.chance(100), 0);
         is("a DRAW each DAY", z.has(12), (int) x);
+        z.seed(seedThatDraws(0));
+        is("0 is not below 0", z.chance(1), 0);
+        ToolSaints w = of("frost 100;");
+        w.seed(seedThatDraws(99));
+        is("99 is below 100", w.chance(1), 1);
     }
 
     private static void holds() {
@@ -1173,7 +1325,7 @@ public final class CallBoundaryTest extends Checks {
         is("swap(1, 0)", x.swap(1, 0), true);
         is("all they know", x.knows(0, 2) * 1000 + x.knows(0, 1) * 100 + x.knows(1, 0) * 10 + x.knows(1, 2), 5230);
         is("the first TOOL too", x.knows(0, 0), 0);
-        ToolSaints full = of("kind k rests 0 of 2;" + jobs(8, "tool t# is k worn 0;") + jobs(6, "hand h#;")
+        ToolSaints full = of("kind k rests 0 of 2;" + many(8, "tool t# is k worn 0;") + many(6, "hand h#;")
                 + "knows hna tna 1;knows hna tnh 2;knows hnf tna 3;knows hnf tnh 4;");
         is("swap(0, 5)", full.swap(0, 5), true);
         is("of 6 HANDS, 8 TOOLS", full.knows(5, 0) * 1000 + full.knows(5, 7) * 100 + full.knows(0, 0) * 10 + full.knows(0, 7), 1234);
@@ -1321,8 +1473,8 @@ public final class CallBoundaryTest extends Checks {
             is("kept(0, " + what + ")", x.kept(0, what), NONE);
         }
         promise = "II, the last 60 are told: all that six JOBS can have";
-        ToolSaints full = of("kind k rests 29 of 30;" + jobs(8, "tool t# is k worn 0;") + jobs(6, "hand h#;")
-                + jobs(6, "job j# by 0 does k 1 k 1 k 1 k 1;") + "wears 0;");
+        ToolSaints full = of("kind k rests 29 of 30;" + many(8, "tool t# is k worn 0;") + many(6, "hand h#;")
+                + many(6, "job j# by 0 does k 1 k 1 k 1 k 1;") + "wears 0;");
         is("24 STEPS", full.days(10), 24);
         is("24 are told", full.has(10), 24);
         for (int k = 0; k < 24; k++) {
@@ -1348,7 +1500,7 @@ public final class CallBoundaryTest extends Checks {
         is("JOBS without TOOLS", of(IDLE).image(), 8);
         is("HANDS without TOOLS", of("hand h;hand g;").image(), 5);
         is("TOOLS without HANDS", of("kind k rests 0 of 2;tool t is k worn 0;").image(), 8);
-        String most = "kind k rests 0 of 2;" + jobs(8, "tool t# is k worn 99;") + jobs(6, "hand h#;") + jobs(6, "job j# by 999 does k 1;");
+        String most = "kind k rests 0 of 2;" + many(8, "tool t# is k worn 99;") + many(6, "hand h#;") + many(6, "job j# by 999 does k 1;");
         is("the longest", of(most).image(), 4 + 24 + 48 + 18 + 1);
         ToolSaints x = changed(onDay(IDLE.replace("by 0", "by 999"), 999), 2, 39, 3, 15);
         int[] due = Tape.summed(new int[] {3, 231, 39, 15, 0, 3, 231, 0});
@@ -1535,6 +1687,33 @@ public final class CallBoundaryTest extends Checks {
             case 10 -> x.shavings();
             default -> x.on();
         }
+    }
+
+    private static void aheadIsWithoutFrost() {
+        promise = "III, AHEAD are DAYS without DRAWS: no frost in any question";
+        String never = ONE.replace("may all", "may frost=1") + "frost 100;job j by 0 does k 1;";
+        ToolSaints x = of(never);
+        is("later", x.later(9, 0), 0);
+        is("done", x.done(0), NONE);
+        is("late", x.late(3), 3);
+        is("order", x.order(3, NONE), 3);
+        is("moved", x.moved(3, 0), NONE);
+        is("hangs", x.hangs(0, 9), 0);
+        is("guard", x.guard(0, 9), 0);
+        is("shavings", Tape.shavings(x, 0, 1), 0);
+        is("days", x.days(9), 0);
+        is("but by the seed", x.chance(1) + x.job(0, 2), 2);
+        ToolSaints y = of(never.replace("frost=1", "frost=0"));
+        is("later", y.later(9, 0), 1);
+        is("done", y.done(0), 1);
+        is("late", y.late(3), 0);
+        is("order", y.order(3, NONE), 0);
+        is("hangs", y.hangs(0, 9), 1);
+        is("guard", y.guard(0, 9), 1);
+        is("shavings", Tape.shavings(y, 0, 1), 1);
+        is("no DRAW", y.has(12), 1);
+        y.chance(3);
+        is("later, behind DAYS of frost", y.later(9, 0), 1);
     }
 
     private static void aheadChangesNothing() {

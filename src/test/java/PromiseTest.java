@@ -1,9 +1,5 @@
 /** For each promise of the document its ordinary answers, its edges and its refusals, worked out by hand. */
 public final class PromiseTest extends Checks {
-    /** Two KINDS, three TOOLS, two HANDS, two JOBS; saws rest on 1, 4, 7, axes on 0, 5, 10. */
-    private static final String YARD = "kind saw rests 1 of 3;kind axe rests 0 of 5;"
-            + "tool sa is saw worn 10;tool sb is saw worn 4;tool ax is axe worn 0;hand pip;hand quin;"
-            + "knows pip sa 3;knows quin sb 2;knows quin ax 5;job bed by 1 does saw 3 axe 2;job door by 0 does saw 5 saw 6;";
     /** One of each; the JOB has four STEPS. */
     private static final String LONE = "kind k rests 0 of 30;tool t is k worn 0;hand h;job j by 0 does k 1 k 1 k 1 k 1;";
 
@@ -515,17 +511,6 @@ public final class PromiseTest extends Checks {
         ToolSaints x = of("kind k rests 1 of 5;tool t is k worn 10;hand h;knows h t 9;job j by 9 does k 4;" + wears);
         x.days(1);
         return x.tool(0, 1);
-    }
-
-    private static int sum(String sum) {
-        ToolSaints x = of("kind k rests 1 of 5;tool t is k worn 0;hand h;knows h t 4;job j by 9 does k 8;wears " + sum + ";");
-        x.days(1);
-        return x.tool(0, 1);
-    }
-
-    private static boolean test(String test) {
-        ToolSaints x = of("kind k rests 1 of 5;tool t is k worn 3;hand h;knows h t 4;job j by 9 does k 8;may " + test + ";");
-        return x.days(1) == 1;
     }
 
     private static void ruleLanguage() {

@@ -34,6 +34,7 @@ public final class TextBoundaryTest extends Checks {
         firstAlongTheText();
         openAtOnce();
         openUntilItEnds();
+        deepest();
         factsOfRules();
         floors();
         byZero();
@@ -175,20 +176,12 @@ public final class TextBoundaryTest extends Checks {
         is("smith 0 of 9 again", x.done(0), 10);
     }
 
-    private static String many(String form, int count) {
-        StringBuilder text = new StringBuilder();
-        for (int i = 0; i < count; i++) {
-            text.append(form.replace("#", "n" + (char) ('a' + i)));
-        }
-        return text.toString();
-    }
-
     private static void countsOfSorts() {
         promise = "I, 6 KINDS, 8 TOOLS, 6 HANDS, 6 JOBS; one too many is a FAULT 6 at its first byte";
-        String kinds = many("kind # rests 0 of 2;", 6);
-        String tools = KIND + many("tool # is k worn 0;", 8);
-        String hands = many("hand #;", 6);
-        String jobs = KIND + many("job # by 0 does k 1;", 6);
+        String kinds = many(6, "kind # rests 0 of 2;");
+        String tools = KIND + many(8, "tool # is k worn 0;");
+        String hands = many(6, "hand #;");
+        String jobs = KIND + many(6, "job # by 0 does k 1;");
         is("6 KINDS", of(kinds).has(0), 6);
         is("8 TOOLS", of(tools).has(1), 8);
         is("6 HANDS", of(hands).has(2), 6);
@@ -203,8 +196,8 @@ public final class TextBoundaryTest extends Checks {
         fault(jobs, "job 12345", 6, 0);
         fault(kinds, "kinds", 1, 0);
         fault(kinds, "kindkind", 1, 6);
-        is("all of them at once", of(kinds + many("tool # is na worn 0;", 8).replace(" n", " t").replace("is ta", "is na")
-                + hands.replace(" n", " h") + many("job # by 0 does na 1;", 6).replace("job n", "job j")).has(3), 6);
+        is("all of them at once", of(kinds + many(8, "tool # is na worn 0;").replace(" n", " t").replace("is ta", "is na")
+                + hands.replace(" n", " h") + many(6, "job # by 0 does na 1;").replace("job n", "job j")).has(3), 6);
     }
 
     private static void countsOfRules() {
@@ -488,6 +481,12 @@ public final class TextBoundaryTest extends Checks {
         fault(" ".repeat(1599) + "!", 1, 1599);
         fault(" ".repeat(1596) + "fine", 1, 1600);
         fault("wears 1" + "+1".repeat(796) + ";", 0, NONE);
+        ToolSaints x = new ToolSaints();
+        for (int turn = 1; turn < 8; turn++) {
+            Tape.year(x, HAND + "job j by 0 does k 1;may all;wears 1" + "-0".repeat(700) + "+1".repeat(turn) + ";");
+            x.days(1);
+            is("long sums, YEAR by YEAR", x.tool(0, 1), turn + 1);
+        }
         is("a sum as long as the tape", sum("1" + "-0".repeat(700) + "+1".repeat(30)), 31);
     }
 
@@ -554,6 +553,24 @@ public final class TextBoundaryTest extends Checks {
         fault("wears if(not not not not not not not all", 5, 33);
     }
 
+    private static void deepest() {
+        promise = "I, seven open at once, each with as much waiting as can be";
+        StringBuilder tests = new StringBuilder("may ");
+        StringBuilder sums = new StringBuilder("wears ");
+        for (int i = 0; i < 7; i++) {
+            tests.append("1=2 or 1=1 and 9=2+1*if(");
+            sums.append("1+1*if(1=2,50,");
+        }
+        tests.append("1=2 or 1=1 and 1=0+1*1").append(",7,8)".repeat(7));
+        sums.append("1+2*3").append(")".repeat(7));
+        is("tests in tests", of(HAND + "job j by 0 does k 1;" + tests + ";").days(1), 1);
+        is("they are not just passed over", of(HAND + "job j by 0 does k 1;" + tests.toString().replace("1=0+1*1", "1=0+1*2")
+                + ";").days(1), 0);
+        is("sums in sums", sum(sums.substring(6)), 7 + 7);
+        fault(HAND, tests + ",", 1, tests.length());
+        fine("may " + "not ".repeat(7) + "1+1*2=3+4*5 or 1=1;");
+    }
+
     private static void factsOfRules() {
         promise = "I, PART: in may: frost; used";
         for (String word : new String[] {"rest", "worn", "knows", "hours", "day", "late"}) {
@@ -580,17 +597,6 @@ public final class TextBoundaryTest extends Checks {
         fault("may ;", 1, 4);
         fault("wears ();", 1, 7);
         fault("may [];", 1, 5);
-    }
-
-    /** What a TOOL at 0 is worn by, on DAY 0, with HOURS 8, known 4. */
-    private static int sum(String sum) {
-        ToolSaints x = of("kind k rests 1 of 5;tool t is k worn 0;hand h;knows h t 4;job j by 9 does k 8;wears " + sum + ";");
-        x.days(1);
-        return x.tool(0, 1);
-    }
-
-    private static boolean test(String test) {
-        return of("kind k rests 1 of 5;tool t is k worn 3;hand h;knows h t 4;job j by 9 does k 8;may " + test + ";").days(1) == 1;
     }
 
     private static void floors() {
