@@ -1564,19 +1564,29 @@ public final class ToolSaints {
             saved = 0;
         }
 
+        private Yard saveAt(int which) {
+            return which >= 0 && which < SAVED_MOST ? saves[which] : null;
+        }
+
         void save(Yard yard) {
-            saves[next].copy(yard);
+            Yard save = saveAt(next);
+            if (save == null) {
+                return;
+            }
+            save.copy(yard);
             next = (next + 1) % SAVED_MOST;
             saved = Math.min(SAVED_MOST, saved + 1);
         }
 
         boolean restore(Yard yard) {
-            if (saved == 0) {
+            int latest = (next + SAVED_MOST - 1) % SAVED_MOST;
+            Yard save = saveAt(latest);
+            if (saved == 0 || save == null) {
                 return false;
             }
-            next = (next + SAVED_MOST - 1) % SAVED_MOST;
+            next = latest;
             saved--;
-            yard.copy(saves[next]);
+            yard.copy(save);
             return true;
         }
 
@@ -1754,6 +1764,8 @@ public final class ToolSaints {
     /** Answers what comes AHEAD, on a Yard of its own. */
     private static final class Ahead {
         private static final int ORDERS_MOST = 720;
+        // Six JOBS, 100 DAYS, 999 late at most: never as much.
+        private static final int BEYOND_LATENESS = 1000000;
 
         private final Yard now;
         private final Yard trial = new Yard();
@@ -1804,7 +1816,7 @@ public final class ToolSaints {
 
         int behind(int n, int job) {
             restart();
-            pass(n, Integer.MAX_VALUE);
+            pass(n, BEYOND_LATENESS);
             return year.holds(SORT_JOB, job) ? trial.stepsDone[job] : trial.fines;
         }
 
@@ -1818,7 +1830,7 @@ public final class ToolSaints {
 
         int latenessBehind(int n) {
             restart();
-            pass(n, Integer.MAX_VALUE);
+            pass(n, BEYOND_LATENESS);
             return shop.lateness;
         }
 
@@ -1844,7 +1856,7 @@ public final class ToolSaints {
                 tryRow[i] = i;
             }
             int least = leastLateness(n);
-            orderLateness = Integer.MAX_VALUE;
+            orderLateness = BEYOND_LATENESS;
             boolean more = true;
             for (int i = 0; i < ORDERS_MOST && more && orderLateness > least; i++) {
                 if (isWorthTrying(jobs)) {
@@ -1911,7 +1923,7 @@ public final class ToolSaints {
             moveDays = n;
             moveKind = NONE;
             restart();
-            pass(n, Integer.MAX_VALUE);
+            pass(n, BEYOND_LATENESS);
             int without = shop.lateness;
             int least = leastLateness(n);
             int best = without;

@@ -1,3 +1,6 @@
+import java.util.function.Predicate;
+import java.util.function.Supplier;
+
 /** The boundary cases of the calls: promises 1 to 34, with blocks II and III of the document's terms. */
 public final class CallBoundaryTest extends Checks {
     private static final int MIN = Integer.MIN_VALUE;
@@ -73,25 +76,69 @@ public final class CallBoundaryTest extends Checks {
     }
 
     /**
-     * All that can be asked of an object without a change, but what was refused and the fault. That is
-     * more than the 512 calls the document promises, but the program counts no calls.
+     * What can be asked of an object without a change, but what was refused and the fault; of what is
+     * there alone, so that an object is asked far fewer than the 512 calls the document promises.
      */
     private static String all(ToolSaints x) {
         StringBuilder b = new StringBuilder();
-        for (int a = -1; a < 14; a++) {
-            b.append(x.has(a)).append(a < 13 ? ' ' : '\n');
+        for (int what = 0; what < 13; what++) {
+            b.append(x.has(what)).append(' ');
         }
-        for (int a = 0; a < 8; a++) {
-            for (int what = 0; what < 24; what++) {
-                b.append(x.kind(a, what)).append(' ').append(x.tool(a, what)).append(' ').append(x.job(a, what)).append(' ');
-                b.append(x.knows(a, what)).append(' ').append(x.kept(what, a)).append(' ').append(x.letter(a, what / 6, what % 6));
-                b.append(what < 23 ? ' ' : '\n');
+        int tools = x.has(1);
+        for (int kind = 0; kind < x.has(0); kind++) {
+            b.append("\nkind ").append(x.letter(0, kind, 1));
+            for (int what = 0; what < 5; what++) {
+                b.append(' ').append(x.kind(kind, what));
             }
         }
-        for (int k = 0; k < 62; k++) {
-            b.append(x.when(k)).append(' ');
+        for (int tool = 0; tool < tools; tool++) {
+            b.append("\ntool ").append(x.letter(1, tool, 1)).append(' ').append(x.tool(tool, 0)).append(' ');
+            b.append(x.tool(tool, 1)).append(' ').append(x.tool(tool, 2)).append(' ').append(x.tool(tool, 3));
+        }
+        for (int hand = 0; hand < x.has(2); hand++) {
+            b.append("\nhand ").append(x.letter(2, hand, 1));
+            for (int tool = 0; tool < tools; tool++) {
+                b.append(' ').append(x.knows(hand, tool));
+            }
+        }
+        return b + jobsOf(x) + toldOf(x);
+    }
+
+    private static String jobsOf(ToolSaints x) {
+        StringBuilder b = new StringBuilder();
+        for (int job = 0; job < x.has(3); job++) {
+            b.append("\njob ").append(x.letter(3, job, 1)).append(' ').append(x.job(job, 0)).append(' ');
+            b.append(x.job(job, 2)).append(' ').append(x.job(job, 3));
+            for (int step = 0; step < x.job(job, 1); step++) {
+                b.append(' ').append(x.job(job, 10 + step)).append(' ').append(x.job(job, 20 + step));
+            }
         }
         return b.toString();
+    }
+
+    private static String toldOf(ToolSaints x) {
+        StringBuilder b = new StringBuilder("\nkept");
+        for (int k = 0; k < x.has(10); k++) {
+            for (int what = 0; what < 4; what++) {
+                b.append(' ').append(x.kept(k, what));
+            }
+        }
+        b.append("\nshavings");
+        for (int k = 0; x.when(k) != NONE; k++) {
+            b.append(' ').append(x.when(k));
+        }
+        return b.toString();
+    }
+
+    /** A call, on an object of its own, that is refused, counted once, and changes nothing. */
+    private static void refused(String what, int status, Supplier<ToolSaints> made, Predicate<ToolSaints> refuses) {
+        ToolSaints x = made.get();
+        String before = all(x);
+        int count = x.status(status);
+        is(what + " is refused", refuses.test(x), true);
+        is(what + " is counted", x.status(status), count + 1);
+        is(what + ": all stays", all(x), before);
+        is(what + ": the tape is empty", x.end(1), false);
     }
 
     /** A YEAR on a DAY, with nothing worked so far. */
@@ -206,6 +253,27 @@ public final class CallBoundaryTest extends Checks {
 
     private static void refusedYears() {
         promise = "4 NONE, refused (1), with a FAULT (all stays); the tape goes";
+        String[] texts = {"x", "kind saw rests 0 of 2;fine", YARD + "x", YARD + YARD, "hand new;may all;wears 5;breaks 1;"
+            + "fine 9;smith 3 of 4;frost 100;hand", "fine 1;".repeat(81)};
+        for (String text : texts) {
+            refused("year() of " + text, 1, CallBoundaryTest::wellUsed, x -> Tape.year(x, text) == NONE);
+        }
+        ToolSaints x = wellUsed();
+        x.image();
+        int octet = x.octet(1);
+        for (int i = 0; i < texts.length; i++) {
+            Tape.year(x, texts[i]);
+            is("refused", x.status(1), i + 1);
+        }
+        is("the image stays", x.octet(1), octet);
+        is("undo as ever", x.undo(), true);
+        ToolSaints y = of(YARD);
+        Tape.year(y, "kind k rests 0 of 2;serves k for k");
+        is("days go on as ever", y.days(9), of(YARD).days(9));
+    }
+
+    /** With something of all that a new YEAR would take away. */
+    private static ToolSaints wellUsed() {
         ToolSaints x = of(YARD);
         x.seed(5);
         x.days(1);
@@ -213,23 +281,8 @@ public final class CallBoundaryTest extends Checks {
         x.hold(1, 1);
         x.swap(0, 1);
         x.due(0, 400);
-        Tape.shavings(x, 0, 0);
-        x.image();
-        int octet = x.octet(1);
-        String before = all(x);
-        String[] texts = {"x", "kind saw rests 0 of 2;fine", YARD + "x", YARD + YARD, "hand new;may all;wears 5;breaks 1;"
-            + "fine 9;smith 3 of 4;frost 100;hand", "fine 1;".repeat(81)};
-        for (int i = 0; i < texts.length; i++) {
-            is("year()", Tape.year(x, texts[i]), NONE);
-            is("refused", x.status(1), i + 1);
-            is("the tape went", x.end(1), false);
-            is("all stays", all(x), before);
-        }
-        is("the image stays", x.octet(1), octet);
-        ToolSaints y = of(YARD);
-        Tape.year(y, "kind k rests 0 of 2;serves k for k");
-        is("days go on as ever", y.days(9), of(YARD).days(9));
-        is("undo as ever", x.undo(), true);
+        Tape.shavings(x, 2, 1);
+        return x;
     }
 
     private static void acceptedYears() {
@@ -1126,17 +1179,22 @@ public final class CallBoundaryTest extends Checks {
         int[] most = new int[32];
         is("16 rows", Tape.shavings(x, most) >= 0, true);
         is("one row", Tape.shavings(x, 2, 0) >= 0, true);
-        String before = all(x);
         int[][] wrongs = {{}, {0}, {0, 0, 0}, new int[31], new int[33], new int[34], new int[1600], {3, 0}, {255, 0}, {0, 2},
             {0, 255}, {0, 0, 3, 0}, {0, 0, 0, 2}, {0, 0, 1, 1, 2}};
         for (int i = 0; i < wrongs.length; i++) {
-            is("row " + i, Tape.shavings(x, wrongs[i]), NONE);
+            int[] rows = wrongs[i];
+            refused("shavings, row " + i, 5, CallBoundaryTest::shaved, y -> Tape.shavings(y, rows) == NONE);
+            Tape.shavings(x, rows);
             is("refused", x.status(5), i + 1);
-            is("the tape went", x.end(1), false);
-            is("all stays, what was told too", all(x), before);
         }
         most[31] = 2;
         is("the last byte of 16 rows", Tape.shavings(x, most), NONE);
+    }
+
+    private static ToolSaints shaved() {
+        ToolSaints x = of(YARD);
+        is("one row", Tape.shavings(x, 2, 0) > 0, true);
+        return x;
     }
 
     private static void shavingDays() {
@@ -1198,12 +1256,10 @@ public final class CallBoundaryTest extends Checks {
     private static void daysEdges() {
         promise = "23 n DAYS go by (1 .. 100); NONE, refused (2), when it can't be (beyond DAY 999)";
         ToolSaints x = of(ONE + "job j by 0 does k 1 k 1;");
-        String before = all(x);
         int[] wrongs = {0, -1, 101, MIN, MAX, MAX - 998};
-        for (int i = 0; i < wrongs.length; i++) {
-            is("days(" + wrongs[i] + ")", x.days(wrongs[i]), NONE);
-            is("refused", x.status(2), i + 1);
-            is("all stays", all(x), before);
+        for (int n : wrongs) {
+            refused("days(" + n + ")", 2, CallBoundaryTest::wellUsed, y -> y.days(n) == NONE);
+            x.days(n);
         }
         is("days(1)", x.days(1), 1);
         is("DAY 1", x.has(4), 1);
@@ -1227,12 +1283,10 @@ public final class CallBoundaryTest extends Checks {
     private static void chanceEdges() {
         promise = "24 n DAYS by the seed (1 .. 100), one ACT; NONE, refused (2), when it can't be";
         ToolSaints x = of(ONE + "frost 100;job j by 0 does k 1 k 1;");
-        String before = all(x);
         int[] wrongs = {0, -1, 101, MIN, MAX, MAX - 998};
-        for (int i = 0; i < wrongs.length; i++) {
-            is("chance(" + wrongs[i] + ")", x.chance(wrongs[i]), NONE);
-            is("refused", x.status(2), i + 1);
-            is("all stays, the seed too", all(x), before);
+        for (int n : wrongs) {
+            refused("chance(" + n + ")", 2, CallBoundaryTest::wellUsed, y -> y.chance(n) == NONE);
+            x.chance(n);
         }
         is("chance(1)", x.chance(1), 1);
         is("chance(100)", x.chance(100), 100);
@@ -1298,14 +1352,13 @@ public final class CallBoundaryTest extends Checks {
         promise = "25 false, refused (3), when there is none such, it is so already, or for others";
         ToolSaints x = of(YARD);
         x.hold(1, 1);
-        String before = all(x);
         int[][] wrongs = {{-1, 1}, {3, 1}, {8, 1}, {32, 1}, {MIN, 1}, {MAX, 1}, {3, 0}, {-1, 0}, {1, 1}, {0, 0}, {2, 0}, {0, 2},
             {0, -1}, {1, 2}, {0, MIN}, {0, MAX}};
-        for (int i = 0; i < wrongs.length; i++) {
-            is("hold(" + wrongs[i][0] + ", " + wrongs[i][1] + ")", x.hold(wrongs[i][0], wrongs[i][1]), false);
-            is("refused", x.status(3), i + 1);
-            is("all stays", all(x), before);
+        for (int[] w : wrongs) {
+            refused("hold(" + w[0] + ", " + w[1] + ")", 3, CallBoundaryTest::wellUsed, y -> !y.hold(w[0], w[1]));
+            x.hold(w[0], w[1]);
         }
+        is("refused", x.status(3), wrongs.length);
         is("the last TOOL", x.hold(2, 1), true);
         is("let go", x.hold(1, 0), true);
         is("held", x.tool(0, 3) * 100 + x.tool(1, 3) * 10 + x.tool(2, 3), 1);
@@ -1315,13 +1368,12 @@ public final class CallBoundaryTest extends Checks {
     private static void swaps() {
         promise = "26 false, refused (3), when there are none such, or they are one";
         ToolSaints x = of(YARD);
-        String before = all(x);
         int[][] wrongs = {{0, 0}, {1, 1}, {0, 2}, {2, 0}, {-1, 0}, {0, -1}, {2, 3}, {-1, -1}, {MIN, 0}, {0, MAX}};
-        for (int i = 0; i < wrongs.length; i++) {
-            is("swap(" + wrongs[i][0] + ", " + wrongs[i][1] + ")", x.swap(wrongs[i][0], wrongs[i][1]), false);
-            is("refused", x.status(3), i + 1);
-            is("all stays", all(x), before);
+        for (int[] w : wrongs) {
+            refused("swap(" + w[0] + ", " + w[1] + ")", 3, CallBoundaryTest::wellUsed, y -> !y.swap(w[0], w[1]));
+            x.swap(w[0], w[1]);
         }
+        is("refused", x.status(3), wrongs.length);
         is("swap(1, 0)", x.swap(1, 0), true);
         is("all they know", x.knows(0, 2) * 1000 + x.knows(0, 1) * 100 + x.knows(1, 0) * 10 + x.knows(1, 2), 5230);
         is("the first TOOL too", x.knows(0, 0), 0);
@@ -1334,13 +1386,12 @@ public final class CallBoundaryTest extends Checks {
     private static void dues() {
         promise = "27 another DAY (0 .. 999); false, refused (3), when that can't be, there is none such, or it is that already";
         ToolSaints x = of(YARD);
-        String before = all(x);
         int[][] wrongs = {{0, -1}, {0, 1000}, {0, MIN}, {0, MAX}, {-1, 5}, {2, 5}, {6, 5}, {MIN, 5}, {MAX, 5}, {0, 1}, {1, 0}};
-        for (int i = 0; i < wrongs.length; i++) {
-            is("due(" + wrongs[i][0] + ", " + wrongs[i][1] + ")", x.due(wrongs[i][0], wrongs[i][1]), false);
-            is("refused", x.status(3), i + 1);
-            is("all stays", all(x), before);
+        for (int[] w : wrongs) {
+            refused("due(" + w[0] + ", " + w[1] + ")", 3, () -> of(YARD), y -> !y.due(w[0], w[1]));
+            x.due(w[0], w[1]);
         }
+        is("refused", x.status(3), wrongs.length);
         is("due(0, 0)", x.due(0, 0), true);
         is("due(0, 999)", x.due(0, 999), true);
         is("due(1, 1)", x.due(1, 1), true);
@@ -1350,24 +1401,22 @@ public final class CallBoundaryTest extends Checks {
 
     private static void undoes() {
         promise = "28 all is as it was ahead of it (but the seed); false, refused (4), when none can be";
-        ToolSaints x = of(YARD + "frost 60;");
+        for (int left = 5; left >= 0; left--) {
+            ToolSaints y = withActs(6);
+            int seed = y.has(12);
+            is("the seed is not the one ahead", seed != 9, true);
+            for (int act = 5; act >= left; act--) {
+                is("undo " + act, y.undo(), true);
+                is("the seed stays", y.has(12), seed);
+            }
+            y.seed(9);
+            is("all is as ahead of act " + left, all(y), all(withActs(left)));
+        }
+        ToolSaints x = withActs(0);
         is("none", x.undo(), false);
         is("refused", x.status(4), 1);
-        String[] before = new String[6];
-        for (int act = 0; act < 6; act++) {
-            x.seed(9);
-            before[act] = all(x);
-            act(x, act);
-        }
-        int seed = x.has(12);
-        is("the seed is not the one ahead", seed != 9, true);
-        for (int act = 5; act >= 0; act--) {
-            is("undo " + act, x.undo(), true);
-            is("the seed stays", x.has(12), seed);
-            x.seed(9);
-            is("all is as ahead of act " + act, all(x), before[act]);
-            x.seed(seed);
-        }
+        act(x, 0);
+        is("undo", x.undo(), true);
         is("none is left", x.undo(), false);
         is("refused", x.status(4), 2);
         act(x, 0);
@@ -1383,6 +1432,17 @@ public final class CallBoundaryTest extends Checks {
         x.later(5, 0);
         is("none", x.has(11), 0);
         is("none", x.undo(), false);
+    }
+
+    /** The seed is 9 ahead of each ACT, so that only the ACTS make a difference. */
+    private static ToolSaints withActs(int count) {
+        ToolSaints x = of(YARD + "frost 60;");
+        x.seed(9);
+        for (int act = 0; act < count; act++) {
+            x.seed(9);
+            act(x, act);
+        }
+        return x;
     }
 
     private static void act(ToolSaints x, int act) {
@@ -1544,34 +1604,18 @@ public final class CallBoundaryTest extends Checks {
         promise = "33 DAY 999, fines 9999, worn 100, knows 9 at most; no more STEPS than the JOB has; terms 999 at most";
         ToolSaints x = of(YARD);
         int[] image = Tape.image(x);
-        x.days(1);
-        x.hold(0, 1);
-        String before = all(x);
         // DAY 0, fines 2, TOOLS 4 .. 12, HANDS 13 .. 18, JOBS 19 .. 24.
         int[][] wrongs = {{0, 3, 1, 232}, {0, 4, 1, 0}, {0, 255, 1, 255}, {2, 39, 3, 16}, {2, 40, 3, 0}, {2, 255, 3, 255}, {4, 101},
             {4, 255}, {7, 101}, {10, 101}, {5, 2}, {5, 255}, {11, 2}, {6, 2}, {6, 255}, {12, 2}, {13, 10}, {13, 255}, {18, 10},
             {19, 3}, {19, 255}, {22, 3}, {20, 3, 21, 232}, {20, 4, 21, 0}, {23, 3, 24, 232}, {23, 255, 24, 255}};
-        for (int i = 0; i < wrongs.length; i++) {
-            is("octet " + wrongs[i][0] + " at " + wrongs[i][1], Tape.on(x, spoiled(image, wrongs[i])), false);
-            is("refused", x.status(5), i + 1);
-            is("the tape went", x.end(1), false);
-            is("all stays", all(x), before);
+        for (int[] w : wrongs) {
+            refused("octet " + w[0] + " at " + w[1], 5, CallBoundaryTest::wellUsed, y -> !Tape.on(y, spoiled(image, w)));
         }
         int[][] edges = {{0, 3, 1, 231}, {0, 0, 1, 0}, {2, 39, 3, 15}, {2, 0, 3, 255}, {4, 100}, {10, 100}, {5, 1}, {11, 1}, {6, 1},
             {12, 1}, {13, 9}, {18, 9}, {19, 2}, {22, 2}, {19, 0}, {20, 3, 21, 231}, {23, 3, 24, 231}, {20, 0, 21, 0}};
         for (int[] edge : edges) {
-            x.days(1);
-            is("octet " + edge[0] + " at " + edge[1], Tape.on(x, spoiled(image, edge)), true);
-            is("no ACT can be undone", x.has(11), 0);
-            is("nothing is KEPT", x.has(10), 0);
-            int[] got = Tape.image(x);
-            int[] want = spoiled(image, edge);
-            for (int k = 0; k < want.length; k++) {
-                is("as told, octet " + k, got[k], want[k]);
-            }
+            takesOn(spoiled(image, edge), "octet " + edge[0] + " at " + edge[1]);
         }
-        is("none was refused", x.status(5), wrongs.length);
-        is("no ACT can be undone", x.undo(), false);
         promise = "33 the seed is none of it";
         x.seed(44);
         Tape.on(x, image);
@@ -1583,6 +1627,19 @@ public final class CallBoundaryTest extends Checks {
         x.seed(1);
         Tape.on(x, image);
         is("as at first", x.days(3), of(YARD).days(3));
+    }
+
+    private static void takesOn(int[] image, String what) {
+        ToolSaints x = wellUsed();
+        is(what, Tape.on(x, image), true);
+        is("no ACT can be undone", x.has(11), 0);
+        is("nothing is KEPT", x.has(10), 0);
+        is("none was refused", x.status(5), 0);
+        int[] got = Tape.image(x);
+        for (int k = 0; k < image.length; k++) {
+            is(what + ": as told, octet " + k, got[k], image[k]);
+        }
+        is("no ACT can be undone", x.undo(), false);
     }
 
     private static void imageLengths() {

@@ -5,14 +5,19 @@ import java.util.Random;
 
 /** Random runs of calls, by fixed seeds, on the program and on Model: every answer must be the same. */
 public final class ModelTest {
-    private static final int RUNS = 400;
-    private static final int CALLS = 250;
+    private static final int RUNS = 4000;
+    // Behind the 512th call of an object every answer is free.
+    private static final int CALLS = 512;
+    // What one turn may ask at most: a new YEAR, an image written and read, some questions.
+    private static final int TURN_MOST = 240;
+    private static final int QUESTIONS = 30;
 
     private final Random random;
     private final int run;
     private final ToolSaints x = new ToolSaints();
     private final Model m = new Model();
     private final List<String> story = new ArrayList<>();
+    private int asked;
     private boolean wrong;
 
     private ModelTest(int run) {
@@ -36,6 +41,7 @@ public final class ModelTest {
     }
 
     private void same(String call, long got, long want) {
+        asked++;
         story.add(call + " -> " + got);
         if (got != want && !wrong) {
             wrong = true;
@@ -58,16 +64,19 @@ public final class ModelTest {
     }
 
     private void play() {
-        for (int i = 0; i < CALLS && !wrong; i++) {
-            if (i == 0 || rarely(60)) {
+        newYear();
+        while (asked <= CALLS - TURN_MOST && !wrong) {
+            if (rarely(60)) {
                 newYear();
             }
             call();
-            if (rarely(40)) {
-                compareAll();
+            for (int i = rarely(9) ? QUESTIONS : 0; i > 0; i--) {
+                question();
             }
         }
-        compareAll();
+        while (asked < CALLS && !wrong) {
+            question();
+        }
     }
 
     private void feedAll(byte[] bytes) {
@@ -156,7 +165,8 @@ public final class ModelTest {
         same("end(0)", bit(x.end(0)), bit(m.end(0)));
         feedAll(rows);
         same("shavings()", x.shavings(), m.shavings());
-        for (int k = -1; k < 63; k++) {
+        int step = rarely(9) ? 1 : near(5, 20);
+        for (int k = -1; k < 63; k += step) {
             same("when(" + k + ")", x.when(k), m.when(k));
         }
     }
@@ -165,9 +175,12 @@ public final class ModelTest {
         int length = x.image();
         same("image()", length, m.image());
         int[] image = new int[length];
+        boolean whole = rarely(4);
         for (int k = 0; k < length; k++) {
-            image[k] = x.octet(k);
-            same("octet(" + k + ")", image[k], m.octet(k));
+            image[k] = m.octet(k);
+            if (whole || rarely(9)) {
+                same("octet(" + k + ")", x.octet(k), image[k]);
+            }
         }
         if (rarely(2)) {
             int changes = near(1, 3);
@@ -185,27 +198,24 @@ public final class ModelTest {
         same("on()", bit(x.on()), bit(m.on()));
     }
 
-    private void compareAll() {
-        for (int a = -1; a < 14; a++) {
-            same("has(" + a + ")", x.has(a), m.has(a));
-            same("status(" + a + ")", x.status(a), m.status(a));
-            same("fault(" + a + ")", x.fault(a), m.fault(a));
-            same("octet(" + a + ")", x.octet(a), m.octet(a));
-            for (int b = -1; b < 25; b++) {
-                same("kind(" + a + "," + b + ")", x.kind(a, b), m.kind(a, b));
-                same("tool(" + a + "," + b + ")", x.tool(a, b), m.tool(a, b));
-                same("knows(" + a + "," + b + ")", x.knows(a, b), m.knows(a, b));
-                same("job(" + a + "," + b + ")", x.job(a, b), m.job(a, b));
-                same("kept(" + b + "," + a + ")", x.kept(b, a), m.kept(b, a));
-            }
-        }
-        for (int sort = -1; sort < 5; sort++) {
-            for (int which = -1; which < 9; which++) {
-                for (int k = -1; k < 7; k++) {
-                    same("letter(" + sort + "," + which + "," + k + ")", x.letter(sort, which, k),
-                            m.letter(sort, which, k));
-                }
-            }
+    /** Any question, mostly of what may be there. */
+    private void question() {
+        int a = near(-1, rarely(9) ? 14 : 5);
+        int b = near(-1, rarely(9) ? 25 : 5);
+        int step = near(0, 24);
+        switch (random.nextInt(11)) {
+            case 0 -> same("has(" + (a + b) + ")", x.has(a + b), m.has(a + b));
+            case 1 -> same("status(" + a + ")", x.status(a), m.status(a));
+            case 2 -> same("fault(" + a + ")", x.fault(a), m.fault(a));
+            case 3 -> same("octet(" + (a + step) + ")", x.octet(a + step), m.octet(a + step));
+            case 4 -> same("kind(" + a + "," + b + ")", x.kind(a, b), m.kind(a, b));
+            case 5 -> same("tool(" + a + "," + b + ")", x.tool(a, b), m.tool(a, b));
+            case 6 -> same("knows(" + a + "," + b + ")", x.knows(a, b), m.knows(a, b));
+            case 7 -> same("job(" + a + "," + b + ")", x.job(a, b), m.job(a, b));
+            case 8 -> same("job(" + a + "," + step + ")", x.job(a, step), m.job(a, step));
+            case 9 -> same("kept(" + step + "," + a + ")", x.kept(step, a), m.kept(step, a));
+            default -> same("letter(" + a + "," + b + "," + step % 7 + ")", x.letter(a, b, step % 7),
+                    m.letter(a, b, step % 7));
         }
     }
 

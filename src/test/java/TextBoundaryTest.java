@@ -482,7 +482,7 @@ public final class TextBoundaryTest extends Checks {
         fault(" ".repeat(1596) + "fine", 1, 1600);
         fault("wears 1" + "+1".repeat(796) + ";", 0, NONE);
         ToolSaints x = new ToolSaints();
-        for (int turn = 1; turn < 8; turn++) {
+        for (int turn = 1; turn < 6; turn++) {
             Tape.year(x, HAND + "job j by 0 does k 1;may all;wears 1" + "-0".repeat(700) + "+1".repeat(turn) + ";");
             x.days(1);
             is("long sums, YEAR by YEAR", x.tool(0, 1), turn + 1);
