@@ -12,7 +12,7 @@ import java.util.TreeSet;
 import java.util.regex.Matcher;
 import java.util.regex.Pattern;
 
-/** The document's face by reflection, and what can be seen of ../shared/LANGUAGE.md in the source. */
+/** The document's face by reflection, with rules 1, 2, 5 and 11 of ../shared/LANGUAGE.md; RulesTest has the others. */
 public final class LanguageTest {
     private static final String FACE = "boolean due(int,int)|boolean end(int)|boolean hold(int,int)|boolean on()|"
             + "boolean seed(int)|boolean swap(int,int)|boolean undo()|int chance(int)|int days(int)|int done(int)|"
@@ -21,10 +21,6 @@ public final class LanguageTest {
             + "int later(int,int)|int letter(int,int,int)|int loan(int,int)|int makeshift(int,int,int)|"
             + "int moved(int,int)|int octet(int)|int order(int,int)|int shavings()|int status(int)|int tool(int,int)|"
             + "int when(int)|int year()";
-    private static final String[] FORBIDDEN = {"throw", "throws", "try", "catch", "synchronized", "assert", "var",
-        "Exact", "hashCode", "toString", "random", "Random", "currentTimeMillis", "nanoTime", "Thread", "record",
-        "HashMap", "Object", "String\\.format", "->", "::", "\\.equals\\(this"};
-
     private static int wrong;
 
     private LanguageTest() {
@@ -95,40 +91,19 @@ public final class LanguageTest {
             }
             check(own <= 20, "rule 11: " + own + " fields in " + c);
             for (Method m : c.getDeclaredMethods()) {
-                check(m.getParameterCount() <= 7, "rule 11: " + m);
                 check(c == ToolSaints.class || !FACE.contains(" " + m.getName() + "("), "rule 1, the name of " + m);
             }
         }
     }
 
     private static void source(String text) {
-        String code = text.replaceAll("(?s)/\\*.*?\\*/", "").replaceAll("//[^\n]*", "").replaceAll("\"[^\"]*\"", "\"\"");
-        for (String word : FORBIDDEN) {
-            String sought = Character.isLetter(word.charAt(0)) ? "\\b" + word + "\\b" : word;
-            check(!Pattern.compile(sought).matcher(code).find(), "rules 2, 4, 6, 13: " + word);
-        }
-        check(!Pattern.compile("\"\"\\s*\\+|\\+\\s*\"\"").matcher(code).find(), "rule 10: texts joined by +");
-        Matcher imports = Pattern.compile("import ([^;]*);").matcher(code);
+        Matcher imports = Pattern.compile("(?m)^import ([^;]*);").matcher(text);
         while (imports.find()) {
             check(imports.group(1).equals("java.util.Arrays"), "rule 4: " + imports.group(1));
         }
+        check(!Pattern.compile("(?m)^package ").matcher(text).find(), "a package");
         for (char c : text.toCharArray()) {
             check(c == '\n' || c >= 32 && c < 127, "a sign beyond 127");
-        }
-        methodLengths(text);
-    }
-
-    private static void methodLengths(String text) {
-        String[] lines = text.split("\n");
-        for (int i = 0; i < lines.length; i++) {
-            Matcher head = Pattern.compile("^( +)[a-zA-Z\\[\\] ]+\\([^;]*\\) \\{$").matcher(lines[i]);
-            if (head.find() && (head.group(1).length() == 4 || head.group(1).length() == 8)) {
-                int last = i;
-                while (!lines[last].equals(head.group(1) + "}")) {
-                    last++;
-                }
-                check(last - i < 60, "rule 11: " + lines[i].trim());
-            }
         }
     }
 }
