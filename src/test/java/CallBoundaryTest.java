@@ -68,6 +68,8 @@ public final class CallBoundaryTest extends Checks {
         images();
         octets();
         imageBounds();
+        imagesInARow();
+        fullImage();
         imageLengths();
         statuses();
         aheadChangesNothing();
@@ -1189,6 +1191,11 @@ public final class CallBoundaryTest extends Checks {
         }
         most[31] = 2;
         is("the last byte of 16 rows", Tape.shavings(x, most), NONE);
+        promise = "3, 21 what stood behind the end is none of it";
+        ToolSaints y = of(YARD);
+        y.feed(0x0200ffff, -1, -1, -1, -1);
+        y.end(2);
+        is("one row", y.shavings(), Tape.shavings(of(YARD), 2, 0));
     }
 
     private static ToolSaints shaved() {
@@ -1640,6 +1647,46 @@ public final class CallBoundaryTest extends Checks {
             is(what + ": as told, octet " + k, got[k], image[k]);
         }
         is("no ACT can be undone", x.undo(), false);
+    }
+
+    private static void imagesInARow() {
+        promise = "33 all is as it tells: nothing of an image ahead of it";
+        ToolSaints x = of(YARD);
+        int[] image = Tape.image(x);
+        is("all BROKEN and HELD", Tape.on(x, spoiled(image, 5, 1, 6, 1, 8, 1, 9, 1, 11, 1, 12, 1)), true);
+        is("BROKEN, HELD", x.has(6) * 10 + x.has(7), 33);
+        is("then none", Tape.on(x, image), true);
+        is("BROKEN, HELD", x.has(6) * 10 + x.has(7), 0);
+        is("a refused one", Tape.on(x, spoiled(image, 5, 1, 6, 1, 7, 101)), false);
+        is("BROKEN, HELD, still", x.has(6) * 10 + x.has(7), 0);
+        is("as at first", all(x), all(of(YARD)));
+    }
+
+    private static void fullImage() {
+        promise = "33 all that the most TOOLS, HANDS and JOBS can tell, undone and worked with";
+        ToolSaints x = of("kind k rests 0 of 30;" + many(8, "tool t# is k worn 0;") + many(6, "hand h#;")
+                + many(6, "job j# by 0 does k 1;") + "may knows>6;");
+        int[] image = Tape.image(x);
+        is("bytes", image.length, 4 + 24 + 48 + 18 + 1);
+        for (int at = 28; at < 76; at++) {
+            image[at] = at % 7;
+        }
+        // The last HAND and the last TOOL alone may work.
+        image[75] = 9;
+        is("on()", Tape.on(x, Tape.summed(image)), true);
+        isKnown(x, image);
+        is("swap(2, 4)", x.swap(2, 4), true);
+        is("undo", x.undo(), true);
+        isKnown(x, image);
+        is("AHEAD", x.later(1, 0), 1);
+        is("days", x.days(1), 1);
+        is("the last TOOL, the last HAND", x.kept(0, 2) * 10 + x.kept(0, 3), 75);
+    }
+
+    private static void isKnown(ToolSaints x, int[] image) {
+        for (int at = 28; at < 76; at++) {
+            is("octet " + at + ", as it is known", x.knows((at - 28) / 8, (at - 28) % 8), image[at]);
+        }
     }
 
     private static void imageLengths() {

@@ -41,6 +41,7 @@ public final class TextBoundaryTest extends Checks {
         largestResults();
         comparisons();
         strengths();
+        holdsOrNot();
         finish("the boundaries of texts hold");
     }
 
@@ -450,6 +451,13 @@ public final class TextBoundaryTest extends Checks {
             fault(before, "12345", 1, 4);
             fault(before, "00000000;", 1, 4);
         }
+        promise = "I, a number is no sign, though it tells a sign's byte";
+        fault("fine 1 0059;", 1, 7);
+        fault("fine 1 00591", 1, 11);
+        fault("hand h59", 1, 6);
+        fault("wears 1 00431;", 1, 12);
+        fault("wears worn43 1;", 1, 10);
+        fault("wears 00401);", 1, 10);
     }
 
     private static void endsTooSoon() {
@@ -685,5 +693,32 @@ public final class TextBoundaryTest extends Checks {
         is("not of brackets", test("not [1=1 and 1=2]"), true);
         is("all", test("all"), true);
         is("not all", test("not all"), false);
+    }
+
+    private static void holdsOrNot() {
+        promise = "I, a FACT that holds, in not, and, or, if";
+        for (String fact : new String[] {"1<2", "2>1", "2=2", "all", "[1<2]", "not 2<1", "not 1>2", "not 1=2", "not not all"}) {
+            is(fact, test(fact), true);
+            is("not " + fact, test("not " + fact), false);
+            is("not not " + fact, test("not not " + fact), true);
+            is(fact + " and", test(fact + " and all and 1<2 and 2>1 and 2=2"), true);
+            is("and " + fact, test("2=2 and 2>1 and 1<2 and all and " + fact), true);
+            is(fact + " and not", test(fact + " and not all"), false);
+            is("or " + fact, test("not all or 2<1 or " + fact), true);
+            is("not [or]", test("not [not all or " + fact + "]"), false);
+            is("if " + fact, sum("if(" + fact + ",5,6)"), 5);
+            is("if not " + fact, sum("if(not [" + fact + "],5,6)"), 6);
+        }
+        promise = "I, a FACT that does not hold, in not, and, or, if";
+        for (String fact : new String[] {"2<2", "2>2", "1=2", "2<1", "1>2", "not all", "[2<1]", "not 1<2", "not 2>1", "not 2=2"}) {
+            is(fact, test(fact), false);
+            is("not " + fact, test("not " + fact), true);
+            is(fact + " and", test(fact + " and all"), false);
+            is("and " + fact, test("2=2 and 2>1 and " + fact), false);
+            is(fact + " or", test(fact + " or 1<2"), true);
+            is("or " + fact, test("not all or 2<1 or " + fact), false);
+            is("not [and]", test("not [all and " + fact + "]"), true);
+            is("if " + fact, sum("if(" + fact + ",5,6)"), 6);
+        }
     }
 }
